@@ -430,6 +430,24 @@ public final class PromisesTest {
         one.tree(0, 0);
         due("one row", one.cut(0, 1), 1);
         due("count(2)", one.count(2), 1);
+        cutIntoThirty();
+    }
+
+    private static void cutIntoThirty() {
+        NearGroups x = new NearGroups();
+        for (int r = 0; r < 30; r++) x.row(r * r, -r, 0, 0);
+        due("29 joins", x.tree(2, 0), 29);
+        due("cut(0, 30)", x.cut(0, 30), 1);
+        due("cut(1, 30)", x.cut(1, 30), 1);
+        due("count(3)", x.count(3), 30);
+        due("of(1, 29)", x.of(1, 29), 29);
+        due("size(1, 29)", x.size(1, 29), 1);
+        due("size(1, 30)", x.size(1, 30), UNKNOWN);
+        due("mean(1, 29, 0, 0)", x.mean(1, 29, 0, 0), 841);
+        due("mean(1, 30, 0, 0)", x.mean(1, 30, 0, 0), UNKNOWN);
+        dueSum(x, 0, 0, 1);
+        dueWell(x, 0, 29, 0, 1);
+        dueAgree(x, 0, 0, 0, 435);
     }
 
     private static void of() {
