@@ -16,6 +16,10 @@ public final class MeansRoundsTest {
     private static final int[][] SPACE = {
         {-1000, -465, 496}, {-935, 550, 889}, {-599, -175, 575}, {-482, 870, 1}, {752, -125, -973}, {-626, -384, -858},
         {-828, -214, -982}, {-255, 85, 283}, {-749, -246, -949}, {-448, -529, -679}};
+    // here it matters that the farthest row is told by the means of the round's beginning
+    private static final int[][] NARROW_SPACE = {
+        {7, 30, -24}, {-11, 30, 22}, {-28, -3, -9}, {-30, -7, -11}, {-30, -3, -6}, {-7, -29, 26}, {-30, 30, -12},
+        {-25, -2, -1}, {11, 30, 4}, {29, 25, 11}, {-30, 30, -12}};
     private static final int[][] PLANE = {
         {-356, 519}, {-509, -825}, {36, 998}, {-141, 399}, {271, 667}, {-749, -402}, {45, 1000}, {530, 367}, {166, 957},
         {973, -392}, {710, 998}, {275, 95}, {-196, -596}, {-591, -682}, {155, 310}, {-275, 154}, {64, 986}, {-628, -249},
@@ -35,6 +39,7 @@ public final class MeansRoundsTest {
         near(TWO_ENDS, 3);
         near(NARROW, 3);
         near(SPACE, 3);
+        near(NARROW_SPACE, 3);
         near(PLANE, 5);
         endsWithRoundSixty();
         System.out.println(wrong == 0 ? "the rounds are as due" : wrong + " answers are not as due");
