@@ -2,8 +2,9 @@ import java.util.Random;
 
 /** Runs of random calls on NearGroups and on the plain model: both must answer alike, call by call. */
 public final class ModelTest {
-    private static final int RUNS = 1200;
-    private static final int CALLS = 512;
+    private static final int RUNS = 6000;
+    // nothing is promised behind an object's 512th call; one turn makes fewer than 170
+    private static final int LAST_TURN = 512 - 170;
     private static int wrong = 0;
 
     private final Random random;
@@ -12,6 +13,7 @@ public final class ModelTest {
     private final int run;
     private final int spread;
     private final int mostRows;
+    private int made = 0;
 
     private ModelTest(int run) {
         this.run = run;
@@ -30,14 +32,14 @@ public final class ModelTest {
     }
 
     private void play() {
-        // the model is slow with many rows: fewer calls then
-        int calls = mostRows == 30 ? CALLS / 8 : CALLS / 2;
         check("columns", subject.columns(1 + run % 4), model.columns(1 + run % 4));
         for (int r = random.nextInt(mostRows + 1); r > 0; r--) addRow();
-        for (int i = 0; i < calls && wrong < 20; i++) call(random.nextInt(46));
+        while (made < LAST_TURN && wrong < 20) call(random.nextInt(46));
     }
 
+    /** Each check stands for one call of the subject. */
     private void check(String call, long got, long want) {
+        made++;
         if (got == want) return;
         wrong++;
         System.out.println("run " + run + ": " + call + " answered " + got + ", the model " + want);

@@ -705,6 +705,15 @@ public final class PromiseEdgesTest extends Edges {
         dueSum(x, 0, 0, 1);
         x = full();
         dueSum(x, 0, 0, 1);
+        // 1/2 + 2/3 + 4/5 + 6/7 + 10/11
+        x = new NearGroups();
+        int[] sizes = {2, 3, 5, 7, 11};
+        for (int g = 0; g < 5; g++) {
+            for (int n = 0; n < sizes[g]; n++) x.row(500 * g - 1000, n == 0 ? 1 : 0, 0, 0);
+        }
+        x.tree(0, 0);
+        x.cut(0, 5);
+        dueSum(x, 0, 8623, 2310);
 
         says("Promise 18: (ROWS in none not counted)");
         x = line(0, 1, 50);

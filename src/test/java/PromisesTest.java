@@ -27,7 +27,6 @@ public final class PromisesTest {
         sum();
         well();
         agree();
-        refusalsChangeNothing();
         System.out.println(wrong == 0 ? "all promises hold" : wrong + " answers are not as due");
         if (wrong != 0) System.exit(1);
     }
@@ -617,50 +616,5 @@ public final class PromisesTest {
         NearGroups other = line(1, 2);
         other.means(1, 1);
         due("slot 0 empty", other.agree(0), STATE);
-    }
-
-    private static String pictureOf(NearGroups x) {
-        StringBuilder picture = new StringBuilder();
-        for (int what = 0; what <= 4; what++) picture.append(x.count(what)).append(' ');
-        for (int i = 0; i < 3; i++) picture.append(x.medoid(i)).append(' ');
-        for (int r = 0; r < x.count(0); r++) picture.append(x.of(0, r)).append(' ').append(x.of(1, r)).append(' ').append(x.distance(0, 0, r)).append(' ');
-        for (int i = 0; i < x.count(4); i++) for (int what = 0; what < 5; what++) picture.append(x.join(i, what)).append(' ');
-        for (int slot = 0; slot < 2; slot++) picture.append(x.sum(slot, 0)).append(' ').append(x.sum(slot, 1)).append(' ');
-        return picture.toString();
-    }
-
-    private static void dueRefused(String call, NearGroups x, String before, long answer) {
-        due(call + " is refused", answer <= UNKNOWN ? 1 : 0, 1);
-        due(call + " changes nothing", pictureOf(x).equals(before) ? 1 : 0, 1);
-    }
-
-    private static void refusalsChangeNothing() {
-        promise = 0;
-        NearGroups x = line(0, 1, 10, 30);
-        x.means(0, 2);
-        x.medoids(1, 1, 3);
-        x.tree(2, 1);
-        String before = pictureOf(x);
-        dueRefused("columns(2)", x, before, x.columns(2));
-        dueRefused("columns(9)", x, before, x.columns(9));
-        dueRefused("row(1001)", x, before, x.row(1001, 0, 0, 0));
-        dueRefused("means(0, 5)", x, before, x.means(0, 5));
-        dueRefused("means(0, 7)", x, before, x.means(0, 7));
-        dueRefused("medoids(0, 0, 4)", x, before, x.medoids(0, 0, 4));
-        dueRefused("medoids(0, 3, 1)", x, before, x.medoids(0, 3, 1));
-        dueRefused("density(0, 0, -1, 1)", x, before, x.density(0, 0, -1, 1));
-        dueRefused("density(1, 0, 1, 31)", x, before, x.density(1, 0, 1, 31));
-        dueRefused("tree(4, 0)", x, before, x.tree(4, 0));
-        dueRefused("tree(3, 3)", x, before, x.tree(3, 3));
-        dueRefused("cut(0, 5)", x, before, x.cut(0, 5));
-        dueRefused("cut(1, 31)", x, before, x.cut(1, 31));
-        NearGroups full = new NearGroups();
-        for (int r = 0; r < 30; r++) full.row(r * r, r, 0, 0);
-        full.means(0, 6);
-        full.tree(3, 0);
-        full.cut(1, 4);
-        before = pictureOf(full);
-        dueRefused("the 31st row", full, before, full.row(0, 0, 0, 0));
-        due("the 31st row", full.row(0, 0, 0, 0), ROOM);
     }
 }

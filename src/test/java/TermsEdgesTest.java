@@ -762,6 +762,12 @@ public final class TermsEdgesTest extends Edges {
         x.means(0, 1);
         x.density(1, 1, 1, 2);
         dueAgree(x, 2, 4, 0, 0);
+        for (int slot = 0; slot < 2; slot++) {
+            x = line(20, 0, 1, 50, 51);
+            x.density(slot, 1, 1, 2);
+            x.means(1 - slot, 1);
+            dueAgree(x, 2, slot == 0 ? 0 : 4, slot == 0 ? 4 : 0, 0);
+        }
 
         says("how many are in one GROUP in both, in SLOT 0 alone, in SLOT 1 alone, in neither");
         x = line(0, 1, 10, 11, 30);
