@@ -18,6 +18,8 @@ public final class NearGroups {
     private static final int MOST_BEST = 3;
     private static final int MOST_REACH = 20000000;
     private static final int WAYS = 4;
+    // above every distance, and every sum of thirty of them
+    private static final int BEYOND_ALL = 2000000000;
     private static final int BY_LEAST = 0;
     private static final int BY_GREATEST = 1;
     private static final int BY_MEAN = 2;
@@ -623,7 +625,7 @@ public final class NearGroups {
 
         private void chooseFirstMeans(Table table) {
             for (int r = 0; r < table.rows; r++) {
-                leasts[r] = Integer.MAX_VALUE;
+                leasts[r] = BEYOND_ALL;
             }
             int chosen = 0;
             for (int g = 0; g < groups; g++) {
@@ -766,9 +768,9 @@ public final class NearGroups {
         /** Leaves the rows in best and the grouping in labels, and answers the least sum. */
         int search(Table table, int kind, int k) {
             wanted = k;
-            bestTotal = Integer.MAX_VALUE;
+            bestTotal = BEYOND_ALL;
             for (int r = 0; r < table.rows; r++) {
-                leasts[r] = Integer.MAX_VALUE;
+                leasts[r] = BEYOND_ALL;
             }
             tryRows(table, kind, 0, 0);
             for (int r = 0; r < table.rows; r++) {

@@ -10,6 +10,7 @@ import java.util.HashSet;
 import java.util.List;
 import java.util.Set;
 import java.util.TreeSet;
+import java.util.regex.Matcher;
 import java.util.regex.Pattern;
 
 /** The public face is the document's and no more; the source holds nothing that LANGUAGE.md or the document rules out. */
@@ -25,9 +26,12 @@ public final class FaceTest {
             "long well(int, int, int, int)", "int agree(int)");
 
     private static final List<String> RULED_OUT = List.of(
-            "^package ", "->", "::", "\\btry\\b", "\\bcatch\\b", "\\bfinally\\b", "\\bthrow\\b",
+            "^package ", "^import ", "->", "::", "\\btry\\b", "\\bcatch\\b", "\\bfinally\\b", "\\bthrow\\b",
             "\\bsynchronized\\b", "\\bassert\\b", "Exact\\b", "\\bdouble\\b", "\\bfloat\\b", "\\bSystem\\.(?!arraycopy)",
-            "\\bRandom\\b");
+            "\\bRandom\\b", "\\bMath\\.(?!(abs|max|min)\\()", "\\b(Integer|Long|Arrays|String|StringBuilder|Object)\\b");
+
+    private static final Pattern METHOD = Pattern.compile("( +)[\\w\\[\\] ]+\\([^;]*\\) \\{");
+    private static final int MOST_LINES = 60;
 
     private static int wrong = 0;
 
@@ -36,6 +40,7 @@ public final class FaceTest {
         checkConstants();
         checkNestedClasses();
         checkSource();
+        checkMethodsAreShort();
         System.out.println(wrong == 0 ? "the face is as due" : wrong + " things are not as due");
         if (wrong != 0) System.exit(1);
     }
@@ -98,7 +103,7 @@ public final class FaceTest {
         for (Class<?> type : typesOf()) {
             int fields = 0;
             for (Field field : type.getDeclaredFields()) {
-                if (Modifier.isStatic(field.getModifiers())) due(field + " is not final", Modifier.isFinal(field.getModifiers()));
+                if (Modifier.isStatic(field.getModifiers())) due(field + " is no constant of int", Modifier.isFinal(field.getModifiers()) && field.getType() == int.class);
                 else fields++;
             }
             due(type + " has " + fields + " fields", fields <= 20);
@@ -113,5 +118,20 @@ public final class FaceTest {
             if (code.startsWith("//") || code.startsWith("*") || code.startsWith("/*")) continue;
             for (String rule : RULED_OUT) due("ruled out by " + rule + ": " + line, !Pattern.compile(rule).matcher(line).find());
         }
+    }
+
+    private static void checkMethodsAreShort() throws IOException {
+        List<String> lines = Files.readAllLines(SOURCE);
+        int methods = 0;
+        for (int start = 0; start < lines.size(); start++) {
+            Matcher method = METHOD.matcher(lines.get(start));
+            // deeper than a nested class's methods stand the loops and conditions
+            if (!method.matches() || method.group(1).length() > 8 || lines.get(start).matches(" +(if|for|while|switch) .*")) continue;
+            int end = start + lines.subList(start, lines.size()).indexOf(method.group(1) + "}");
+            methods++;
+            due(lines.get(start).strip() + " has no end", end > start);
+            due(lines.get(start).strip() + " is too long", end - start < MOST_LINES);
+        }
+        due("only " + methods + " methods were found", methods > FACE.size());
     }
 }
